@@ -41,13 +41,13 @@ public final class ReferenceTests {
         }
         for (String kind : new String[] {"encode -3", "decode -101", "decode -102", "decode -103", "decode ok",
                 "type -3", "append -3", "cut -2", "undo -9", "count -9", "weight -9", "contexts 250",
-                "carry 3", "nothing remains", "bytes 400", "undo 3"}) {
+                "carry 2", "carry 4", "nothing remains", "bytes 400", "undo 3"}) {
             if (reached.getOrDefault(kind, 0) < 1) {
                 wrong++;
                 System.out.println("no run reached: " + kind);
             }
         }
-        System.out.println(wrong == 0 ? "program and reference agree: " + reached : wrong + " runs differ");
+        System.out.println(reached + (wrong == 0 ? " program and reference agree" : wrong + " runs differ"));
         if (wrong != 0) {
             System.exit(1);
         }
@@ -75,24 +75,31 @@ public final class ReferenceTests {
         call("setOrder", 1);
         call("setLimit", 1000);
         call("setStep", 10);
-        for (int i = 0; i < 200; i++) {
-            call("type", 40 + i % 60);
-        }
-        for (int i = 0; i < 32; i++) {
-            call("learn");
-        }
+        learnOften(120, 60, 48);
+        // One letter drives the others' counts at order 0 down to 1.
+        learnOften(30, 1, 26);
         call("setStep", 1);
-        call("remove", 200);
         for (int i = 0; i < 200; i++) {
             call("type", 40 + random.nextInt(60));
         }
         call("encode");
-        for (int i = 0; i < 12; i++) {
-            call("remove", 1 + random.nextInt(4));
+        for (int i = 0; i < 20; i++) {
+            call("remove", 1 + random.nextInt(3));
             call("encode");
-            call("undo");
+            if (random.nextBoolean()) {
+                call("undo");
+            }
         }
-        call("encode");
+    }
+
+    private void learnOften(int length, int kinds, int times) throws Exception {
+        for (int i = 0; i < length; i++) {
+            call("type", 40 + i % kinds);
+        }
+        for (int i = 0; i < times; i++) {
+            call("learn");
+        }
+        call("remove", length);
     }
 
     /** A context that knows all symbols leaves none behind an escape, with exclusion on. */
@@ -216,12 +223,12 @@ public final class ReferenceTests {
         long want = ask(REFERENCE.get(name), reference, numbers);
         calls++;
         story.append(" ").append(name).append(java.util.Arrays.toString(numbers)).append("=").append(want);
-        note(name + " " + (want < 0 || name.equals("undo") || name.equals("contexts") ? want : "ok"));
+        note(name + " " + (want < 0 && !name.equals("fingerprint") || name.equals("undo") ? want : "ok"));
         if (name.equals("encode") || name.equals("decode") || name.equals("learn")) {
-            note("contexts " + reference.contexts());
+            note(reference.contexts() == 250 ? "contexts 250" : "contexts fewer");
             note("carry " + reference.longestCarry());
         }
-        note("bytes " + reference.bytes());
+        note(reference.bytes() == 400 ? "bytes 400" : "bytes fewer");
         // What a call changes shows in the fingerprint and the rest that no call asks for.
         boolean same = got == want && program.fingerprint() == reference.fingerprint()
                 && program.longestCarry() == reference.longestCarry();

@@ -128,7 +128,7 @@ public final class ContextCoder {
     }
 
     public int contexts() {
-        return now.model.keys.size;
+        return now.model.met;
     }
 
     public int count(int order, int symbol) {
@@ -409,7 +409,7 @@ public final class ContextCoder {
             if (row < 0) {
                 continue;
             }
-            int sum = candidates.sumBelow(state.model, row, SYMBOLS);
+            int sum = candidates.sum(state.model, row);
             int total = sum + state.model.knownIn(row);
             if (candidates.holds(state.model, row, symbol)) {
                 int from = candidates.sumBelow(state.model, row, symbol);
@@ -454,7 +454,7 @@ public final class ContextCoder {
             if (row < 0) {
                 continue;
             }
-            int sum = candidates.sumBelow(model, row, SYMBOLS);
+            int sum = candidates.sum(model, row);
             int total = sum + model.knownIn(row);
             int number = decoder.number(total);
             if (number < sum) {
@@ -576,24 +576,30 @@ public final class ContextCoder {
 
     /** The contexts that were met; each has a place for every symbol's count, 0 if not known. */
     private static final class Model {
-        final Row keys = new Row(MAX_CONTEXTS);
+        private int met;
+        private final int[] keys = new int[MAX_CONTEXTS];
+        // Weights and numbers of known symbols are kept, because every step of coding asks for them.
+        private final int[] weights = new int[MAX_CONTEXTS];
+        private final int[] known = new int[MAX_CONTEXTS];
         private final int[] counts = new int[MAX_CONTEXTS * SYMBOLS];
 
-        // The counts may stay: meet() wipes a context's places when they are used again.
+        // What the rows hold may stay: meet() wipes a row before it is used again.
         void clear() {
-            keys.clear();
+            met = 0;
         }
 
         void take(Model other) {
-            keys.take(other.keys);
-            int n = Math.min(keys.size * SYMBOLS, Math.min(counts.length, other.counts.length));
-            System.arraycopy(other.counts, 0, counts, 0, n);
+            met = Math.max(0, Math.min(other.met, MAX_CONTEXTS));
+            System.arraycopy(other.keys, 0, keys, 0, met);
+            System.arraycopy(other.weights, 0, weights, 0, met);
+            System.arraycopy(other.known, 0, known, 0, met);
+            System.arraycopy(other.counts, 0, counts, 0, met * SYMBOLS);
         }
 
         /** The context's row, or -1 if it was not met. */
         int find(int key) {
-            for (int row = 0; row < keys.size; row++) {
-                if (keys.item(row) == key) {
+            for (int row = 0; row < met && row < keys.length; row++) {
+                if (keys[row] == key) {
                     return row;
                 }
             }
@@ -603,59 +609,60 @@ public final class ContextCoder {
         /** The context's row, or -1 if it was not met and there is no room for it. */
         int meet(int key) {
             int row = find(key);
-            if (row >= 0 || keys.size >= MAX_CONTEXTS) {
+            if (row >= 0 || met < 0 || met >= MAX_CONTEXTS) {
                 return row;
             }
-            keys.push(key);
+            row = met;
+            met++;
+            keys[row] = key;
+            weights[row] = 0;
+            known[row] = 0;
             for (int symbol = 0; symbol < SYMBOLS; symbol++) {
-                setCount(keys.size - 1, symbol, 0);
+                counts[row * SYMBOLS + symbol] = 0;
             }
-            return keys.size - 1;
+            return row;
+        }
+
+        private boolean has(int row) {
+            return row >= 0 && row < met && row < MAX_CONTEXTS;
         }
 
         int countIn(int row, int symbol) {
-            int place = placeOf(row, symbol);
-            return place >= 0 && place < counts.length ? counts[place] : 0;
-        }
-
-        private void setCount(int row, int symbol, int value) {
-            int place = placeOf(row, symbol);
-            if (place >= 0 && place < counts.length) {
-                counts[place] = value;
-            }
-        }
-
-        private static int placeOf(int row, int symbol) {
-            boolean there = row >= 0 && row < MAX_CONTEXTS && symbol >= 0 && symbol < SYMBOLS;
-            return there ? row * SYMBOLS + symbol : -1;
+            boolean there = row >= 0 && row < met && row < MAX_CONTEXTS
+                    && symbol >= 0 && symbol < SYMBOLS;
+            return there ? counts[row * SYMBOLS + symbol] : 0;
         }
 
         int weightOf(int row) {
-            int sum = 0;
-            for (int symbol = 0; symbol < SYMBOLS; symbol++) {
-                sum += countIn(row, symbol);
-            }
-            return sum;
+            return has(row) ? weights[row] : 0;
         }
 
         int knownIn(int row) {
-            int known = 0;
-            for (int symbol = 0; symbol < SYMBOLS; symbol++) {
-                if (countIn(row, symbol) > 0) {
-                    known++;
-                }
-            }
-            return known;
+            return has(row) ? known[row] : 0;
         }
 
         void raise(int row, int symbol, int step, int limit) {
-            setCount(row, symbol, countIn(row, symbol) + step);
-            if (weightOf(row) <= limit) {
+            if (!has(row) || symbol < 0 || symbol >= SYMBOLS) {
                 return;
             }
-            for (int other = 0; other < SYMBOLS; other++) {
-                setCount(row, other, (countIn(row, other) + 1) / 2);
+            int place = row * SYMBOLS + symbol;
+            if (counts[place] == 0) {
+                known[row]++;
             }
+            counts[place] += step;
+            weights[row] += step;
+            if (weights[row] > limit) {
+                halve(row);
+            }
+        }
+
+        private void halve(int row) {
+            int sum = 0;
+            for (int place = row * SYMBOLS; place < (row + 1) * SYMBOLS; place++) {
+                counts[place] = (counts[place] + 1) / 2;
+                sum += counts[place];
+            }
+            weights[row] = sum;
         }
     }
 
@@ -730,11 +737,13 @@ public final class ContextCoder {
     /** The symbols that can still be coded while one symbol's coding goes down the orders. */
     private static final class Candidates {
         private final boolean[] excluded = new boolean[SYMBOLS];
+        private boolean untouched = true;
 
         void restart() {
-            for (int symbol = 0; symbol < excluded.length; symbol++) {
+            for (int symbol = 0; symbol < excluded.length && !untouched; symbol++) {
                 excluded[symbol] = false;
             }
+            untouched = true;
         }
 
         boolean remains(int symbol) {
@@ -743,6 +752,10 @@ public final class ContextCoder {
 
         boolean holds(Model model, int row, int symbol) {
             return remains(symbol) && model.countIn(row, symbol) > 0;
+        }
+
+        int sum(Model model, int row) {
+            return untouched ? model.weightOf(row) : sumBelow(model, row, SYMBOLS);
         }
 
         int sumBelow(Model model, int row, int symbol) {
@@ -768,15 +781,15 @@ public final class ContextCoder {
             return -1;
         }
 
+        /** Behind an escape; only with exclusion on does it end the chances of the context's symbols. */
         void leave(State state, int row) {
             if (!state.exclusion) {
                 return;
             }
             for (int symbol = 0; symbol < excluded.length; symbol++) {
-                if (state.model.countIn(row, symbol) > 0) {
-                    excluded[symbol] = true;
-                }
+                excluded[symbol] = excluded[symbol] || state.model.countIn(row, symbol) > 0;
             }
+            untouched = false;
         }
 
         int remainingBelow(int symbol) {

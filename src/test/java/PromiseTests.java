@@ -28,17 +28,22 @@ public final class PromiseTests {
         remove();
         encode();
         encodeFull();
+        encodeToNothing();
+        lowMeetsTheWhole();
         bytes();
         codeByte();
         longestCarry();
         decode();
         decodeFailures();
+        decodeOfNothing();
+        rangeMeetsTheLeast();
         decoded();
         flip();
         cut();
         append();
         coded();
         account();
+        accountOfAFullText();
         cost();
         lg();
         undo();
@@ -436,6 +441,46 @@ public final class PromiseTests {
         due("bytes", x.bytes(), size);
     }
 
+    /** The check number of this text is 0, and every symbol's interval begins at 0: all bytes are 0. */
+    private static void encodeToNothing() {
+        ContextCoder x = with(3, "lwot");
+        x.learn();
+        due("no bytes remain", x.encode(), 0);
+        due("bytes", x.bytes(), 0);
+        due("byte 0", x.codeByte(0), BAD);
+        due("coded", x.coded(), 5);
+    }
+
+    /**
+     * Behind b, an eighth of the whole and somewhat more, the intervals of c to m are the middle half
+     * each, and that of the end begins in the middle, which then is 4294967296 exactly: it carries.
+     */
+    private static void lowMeetsTheWhole() {
+        ContextCoder x = new ContextCoder(1);
+        Reference y = new Reference(1);
+        x.setStep(2);
+        y.setStep(2);
+        String chain = "bcdefghijklm";
+        for (String text : new String[] {"b!c!d!e!f!g!h!i!j!k!l!m!m!m!", chain, chain, "!", chain}) {
+            x.remove(200);
+            y.remove(200);
+            for (char c : text.toCharArray()) {
+                x.type(c);
+                y.type(c);
+            }
+            x.learn();
+            y.learn();
+        }
+        x.undo();
+        y.undo();
+        due("encode", x.encode(), y.encode());
+        for (int k = 0; k < x.bytes(); k++) {
+            due("codeByte", x.codeByte(k), y.codeByte(k));
+        }
+        due("longestCarry", x.longestCarry(), 1);
+        due("of the reference", y.longestCarry(), 1);
+    }
+
     private static void bytes() {
         promise = 16;
         ContextCoder x = new ContextCoder(0);
@@ -581,6 +626,32 @@ public final class PromiseTests {
         due("all remain", x.decode() == -103 ? 1 : 0, 0);
     }
 
+    private static void decodeOfNothing() {
+        ContextCoder x = with(3, "lwot");
+        x.learn();
+        due("a code without bytes", x.decode(), 4);
+        due("decoded(3)", x.decoded(3), 't');
+        due("the model has learned again", x.count(0, 95), 2);
+    }
+
+    /** Behind abcd the range is 16777216 exactly, so a byte goes out before a sixth is told. */
+    private static void rangeMeetsTheLeast() {
+        String learned = "abcdedfdghhhhhhhhhhhhh";
+        for (int n = 0; n < 30; n++) {
+            ContextCoder x = with(1, learned);
+            x.learn();
+            x.remove(22);
+            String text = "abcd" + (char) (101 + n % 3) + (char) (97 + n * n % 13) + (char) (97 + n / 5);
+            typeAll(x, text);
+            x.encode();
+            x.forget();
+            x.remove(7);
+            typeAll(x, learned);
+            x.learn();
+            due("decode of " + text, x.decode(), 7);
+        }
+    }
+
     private static void decoded() {
         promise = 20;
         ContextCoder x = with(1, " ~x");
@@ -711,6 +782,23 @@ public final class PromiseTests {
         due("its cost", x.account(1, 0), x.lg(1, 4));
         x.undo();
         due("undone", x.account(1, 2), -1);
+    }
+
+    private static void accountOfAFullText() {
+        ContextCoder x = new ContextCoder(2);
+        Reference y = new Reference(2);
+        for (int i = 0; i < 200; i++) {
+            x.type(97 + i * i % 7);
+            y.type(97 + i * i % 7);
+        }
+        due("encode", x.encode(), y.encode());
+        due("coded", x.coded(), 201);
+        for (int k = 0; k <= 201; k++) {
+            for (int what = 0; what < 4; what++) {
+                due("account(" + k + ", " + what + ")", x.account(k, what), y.account(k, what));
+            }
+        }
+        due("cost", x.cost(), y.cost());
     }
 
     private static void cost() {

@@ -438,7 +438,7 @@ final class Reference {
     }
 
     /** The coder, with the bytes and its low as one number. */
-    private static final class Arithmetic {
+    static final class Arithmetic {
         BigInteger all = BigInteger.ZERO;
         BigInteger range = WHOLE;
         int sent = 0;

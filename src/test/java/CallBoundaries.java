@@ -324,6 +324,11 @@ final class CallBoundaries {
         // Behind } the end is known alone, and costs as much as half.
         Coders.type(x, "}");
         due("behind }", x.guess(), 95);
+        // The blank is the best of three known; then the second symbol alone is known twice.
+        x = Coders.learned(0, "  a");
+        due("the first symbol", x.guess(), 0);
+        x = Coders.learned(0, "!!");
+        due("the second symbol", x.guess(), 1);
     }
 
     private static void guessOfTheLast() {
@@ -390,6 +395,11 @@ final class CallBoundaries {
         due("shorter than what was appended", x.encode() < 20 ? 1 : 0, 1);
         due("the text stays", x.remove(0), 3);
         due("account", x.coded(), 4);
+        due("escapes of the end", x.account(3, 1), 1);
+        x.encode();
+        due("escapes of the end again", x.account(3, 1), 0);
+        due("of a, too", x.account(0, 1), 0);
+        due("orders", x.account(3, 2), 0);
         x.forget();
         x.remove(3);
         due("an empty text", x.encode(), 3);
@@ -469,6 +479,7 @@ final class CallBoundaries {
         due("six", x.decode(), 6);
         due("contexts", x.contexts(), met);
         due("weight", x.weight(2), weight);
+        due("the account stays", x.coded(), 7);
         x.forget();
         x.remove(6);
         x.encode();
@@ -632,6 +643,8 @@ final class CallBoundaries {
         due("the end", x.account(200, 3), 95);
         due("one escape, for b, ab and aab are new", x.account(200, 1), 1);
         due("at none", x.account(200, 2), -1);
+        // Of order 0, which knows a 199 times and b once.
+        due("its cost", x.account(200, 0), x.lg(2, 202) + x.lg(1, 96));
         due("no more", x.account(201, 3), BAD);
     }
 
@@ -704,6 +717,10 @@ final class CallBoundaries {
         due("new", x.fingerprint(), print(0, 0, 1, 200, 0, 0, 0, 0, 0));
         Coders.append(x, 0, 255);
         due("bytes 0 and 255", x.fingerprint(), print(0, 0, 1, 200, 0, 2, 0, 255, 0, 0, 0));
+        x.setExclusion(true);
+        x.setStep(10);
+        x.setLimit(1000);
+        due("settings", x.fingerprint(), print(0, 1, 10, 1000, 0, 2, 0, 255, 0, 0, 0));
         x = Coders.with(3, " ~");
         x.encode();
         x.forget();

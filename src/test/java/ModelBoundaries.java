@@ -92,6 +92,17 @@ final class ModelBoundaries {
         due("the last characters", Coders.learned(3, "~~~").contexts(), 4);
         // A blank and "!" is another context than "!" alone, and than "! ".
         due("mixed", Coders.learned(2, " ! ").contexts(), 5);
+        // "a~" and "b " are told apart, too.
+        due("neighbours of order 2", Coders.learned(2, "a~b ").contexts(), 8);
+        StringBuilder all = new StringBuilder();
+        for (char first : " !}~".toCharArray()) {
+            for (char second : " !}~".toCharArray()) {
+                for (char third : " !}~".toCharArray()) {
+                    all.append(first).append(second).append(third);
+                }
+            }
+        }
+        due("all of four characters", Coders.learned(3, all.toString()).contexts(), 1 + 4 + 16 + 64);
     }
 
     private static void countsStayAtLeastOne() {
@@ -131,13 +142,28 @@ final class ModelBoundaries {
     private static void historyShorterThanTheOrder() {
         says("The coding goes from order j = K (or the length of the history, if this is less) down to 0; "
                 + "at each order the context consists of the last j characters of the history:");
-        ContextCoder x = Coders.learned(3, "aaaa");
-        x.remove(4);
-        // a's count and what else is in its context: after none a 4 and the end, after a 3 and the end ..
-        int[] counts = {4, 3, 2, 1, 1};
-        for (int length = 0; length <= 4; length++) {
-            due("a behind " + length, x.price('a' - 32), x.lg(counts[length], counts[length] + 3));
-            x.type('a');
+        // Blanks above all, because what stands before the first character is not a blank either.
+        for (String one : new String[] {"a", " ", "~"}) {
+            ContextCoder x = Coders.learned(3, Coders.repeated(one, 4));
+            x.remove(4);
+            // Its count, and what else is in its context: after none 4 and the end, after one 3 and the end ..
+            int[] counts = {4, 3, 2, 1, 1};
+            for (int length = 0; length <= 4; length++) {
+                due(one + " behind " + length, x.price(one.charAt(0) - 32), x.lg(counts[length], counts[length] + 3));
+                Coders.type(x, one);
+            }
+            x.encode();
+            for (int k = 0; k <= 4; k++) {
+                due("the order of the symbol " + k, x.account(k, 2), Math.min(k, 3));
+            }
+            x.undo();
+            Coders.retype(x, Coders.repeated(one, 5));
+            int size = x.encode();
+            x.forget();
+            Coders.retype(x, Coders.repeated(one, 4));
+            x.learn();
+            due("decode behind the same model", x.decode(), 5);
+            due("bytes", x.bytes(), size);
         }
     }
 

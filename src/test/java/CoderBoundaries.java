@@ -317,7 +317,7 @@ final class CoderBoundaries {
         // q = 44739242, and 4294967295 / q is 96: the last symbol of 96 is the end. Then 65535 is no check.
         due("bytes 255", decodes(0, 255, 255, 255, 255), -102);
         due("more bytes 255", decodes(0, 255, 255, 255, 255, 255, 255, 255), -102);
-        // Here it happens on the way through the blanks, which are the whole of their contexts.
+        // Here (value - low) / q is 11 once, at an escape from a context that knows the blank 10 times: t is 11.
         ContextCoder x = Coders.with(2, "   ");
         x.setStep(10);
         x.encode();
